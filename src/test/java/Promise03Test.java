@@ -54,6 +54,14 @@ final class Promise03Test {
         Texts.dueGood("field 9 9 ; stone 0 0 1 ; polygon 3 5 5 6 5 5 6 ; score ( area ) / 2 ; ", 1);
         error(SYNTAX, "@fie ld 2 2;");
         error(SYNTAX, "@fields 2 2;");
+        error(SYNTAX, "@fieldz 2 2;");
+        error(SYNTAX, "@afield 2 2;");
+        error(SYNTAX, "field 2 2;@zstone 1 1 1;");
+        error(SYNTAX, "field 2 2;score @innerz;");
+        error(SYNTAX, "field 2 2;score area@`;");
+        error(SYNTAX, "field 2 2;score area@{;");
+        error(SYNTAX, "field 2 2;score 1@:;");
+        error(SYNTAX, "field 2 2;score 1@,2;");
         error(SYNTAX, "field@Field 2 2;");
         error(SYNTAX, "@Field 2 2;");
         error(SYNTAX, "field 2@\t2;");
@@ -104,6 +112,20 @@ final class Promise03Test {
         error(SYNTAX, "field 2 2;polygon @area 0 0;");
         error(SYNTAX, "field 2 2;score@;");
         error(SYNTAX, "field 2 2;score 1@");
+        error(SYNTAX, "field 2 2;score@");
+        error(SYNTAX, "field 2 2;score 1+@");
+        error(SYNTAX, "field 2 2;score 1* @");
+        error(SYNTAX, "field 2 2;score (@");
+        error(SYNTAX, "field 2 2;score (area@");
+        error(SYNTAX, "field 2 2;score (area)@");
+        error(SYNTAX, "field 2 2;stone@");
+        error(SYNTAX, "field 2 2;stone 1@");
+        error(SYNTAX, "field 2 2;stone 1 1@");
+        error(SYNTAX, "field 2 2;polygon@");
+        error(SYNTAX, "field 2 2;polygon 0@");
+        error(SYNTAX, "field 2 2;polygon 0 1@");
+        error(SYNTAX, "field 2 2;polygon 0 1 1@");
+        error(SYNTAX, "field 2 2;polygon 0 1 1 2@");
         error(SYNTAX, "field 2 2;score 1+@;");
         error(SYNTAX, "field 2 2;score @-1;");
         error(SYNTAX, "field 2 2;score 1-@-1;");
@@ -252,6 +274,10 @@ final class Promise03Test {
         }
         Due.answer("polygon(0, 0)", claims.polygon(0, 0), 1);
         Due.answer("score(0) without a score statement", claims.score(0), 1);
+        for (int k = 1; k <= 30; k++) {
+            Texts.load(claims, "field 3 4;polygon 1 0 0 1 0 0 1;score (" + k + "-area)*2-1;");
+            Due.answer("score(0) by the latest score", claims.score(0), 2 * k - 3);
+        }
         Texts.load(claims, "field 3 4;score 9;");
         Due.answer("count(3)", claims.count(3), 0);
     }

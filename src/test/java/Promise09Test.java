@@ -2,6 +2,7 @@
 final class Promise09Test {
     public static void main(String[] args) {
         lines();
+        endsOnSides();
         ownSides();
         orderOfReasons();
         wrongInputs();
@@ -47,6 +48,46 @@ final class Promise09Test {
         due(claims, 3, 10, 5, 0);
         claims.undo();
         due(claims, 2, 10, 7, 0);
+    }
+
+    /** Lines that end on a side, in all directions, and that end just before it. */
+    private static void endsOnSides() {
+        CornerClaims claims = Texts.loaded("field 12 12;polygon 0 4 4 8 4 8 8 4 8;");
+        claims.begin(1, 1, 5);
+        due(claims, 1, 4, 6, 5);
+        due(claims, 1, 4, 5, 5);
+        due(claims, 1, 3, 6, 0);
+        claims.undo();
+        claims.begin(1, 11, 5);
+        due(claims, 1, 8, 6, 5);
+        due(claims, 1, 8, 5, 5);
+        due(claims, 1, 9, 6, 0);
+        claims.undo();
+        claims.begin(1, 5, 1);
+        due(claims, 1, 6, 4, 5);
+        due(claims, 1, 5, 4, 5);
+        due(claims, 1, 6, 3, 0);
+        claims.undo();
+        claims.begin(1, 5, 11);
+        due(claims, 1, 6, 8, 5);
+        due(claims, 1, 5, 8, 5);
+        due(claims, 1, 6, 9, 0);
+        claims.undo();
+        // From the inside to each of the sides.
+        claims.begin(1, 6, 5);
+        due(claims, 1, 4, 6, 5);
+        due(claims, 1, 8, 6, 5);
+        due(claims, 1, 7, 4, 5);
+        due(claims, 1, 7, 8, 5);
+        due(claims, 1, 7, 7, 0);
+        claims.undo();
+        // On one straight line with a side, and on a line beside it.
+        claims.begin(1, 0, 4);
+        due(claims, 1, 3, 4, 0);
+        due(claims, 1, 5, 4, 4);
+        due(claims, 1, 12, 4, 4);
+        due(claims, 1, 12, 3, 0);
+        due(claims, 1, 12, 5, 5);
     }
 
     private static void ownSides() {

@@ -18,6 +18,8 @@ final class Promise15Test {
         due(Texts.loaded("field 12 12;polygon 0 3 3 9 3 9 9 3 9;polygon 1 5 5 7 5 7 7 5 7;"
                 + "polygon 2 0 0 12 0 12 12 0 12;polygon 3 4 4 8 4 8 8 4 8;polygon 0 1 1 2 1 1 2;"),
                 2, 3, -1, 0, 2);
+        due(Texts.loaded("field 12 12;polygon 0 0 6 6 0 12 6 6 12;polygon 1 6 2 9 6 6 7;"), -1, 0);
+        due(Texts.loaded("field 12 12;polygon 0 0 6 6 0 12 6 6 12;polygon 1 9 6 6 2 6 7;"), -1, 0);
         due(Texts.loaded("field 12 12;polygon 0 0 0 12 0 12 12 0 12;polygon 0 1 1 11 1 11 11 1 11;"
                 + "polygon 0 2 2 10 2 10 10 2 10;polygon 0 3 3 9 3 9 9 3 9;"
                 + "polygon 0 4 4 8 4 8 8 4 8;polygon 0 5 5 7 5 7 7 5 7;"),

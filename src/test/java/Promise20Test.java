@@ -3,6 +3,7 @@ final class Promise20Test {
     public static void main(String[] args) {
         grows();
         refusals();
+        afterOtherChanges();
         wrongInputs();
         Due.end();
     }
@@ -42,6 +43,19 @@ final class Promise20Test {
         Due.answer("nothing is changed", claims.checksum(), sum);
         Due.answer("corner", claims.corner(1, 5, 4), 2);
         Due.answer("a point of the field's end", claims.corner(1, 9, 9), 3);
+    }
+
+    /** What went when a side was bent or a corner taken out is in the way of a corner. */
+    private static void afterOtherChanges() {
+        CornerClaims claims = Texts.loaded("field 10 10;polygon 0 2 2 8 2 8 8 2 8;");
+        claims.begin(1, 5, 1);
+        Due.answer("bend", claims.bend(0, 0, 9, 5), -5);
+        Due.answer("corner across the side", claims.corner(1, 5, 3), -5);
+        claims.begin(1, 9, 5);
+        claims.begin(1, 9, 1);
+        Due.answer("takeOut", claims.takeOut(0, 0), 36);
+        Due.answer("corner across a side", claims.corner(2, 7, 6), -5);
+        Due.answer("corner across a corner", claims.corner(3, 7, 3), -4);
     }
 
     private static void wrongInputs() {

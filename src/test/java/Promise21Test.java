@@ -3,6 +3,7 @@ final class Promise21Test {
     public static void main(String[] args) {
         claimed();
         refusals();
+        afterTakeOut();
         wrongInputs();
         Due.end();
     }
@@ -65,6 +66,14 @@ final class Promise21Test {
         claims.undo();
         claims.begin(0, 2, 2);
         Due.answer("close across a corner of another one", claims.close(0), -4);
+    }
+
+    /** What was to go when a corner was to be taken out is in the way of the last side. */
+    private static void afterTakeOut() {
+        CornerClaims claims = Texts.loaded("field 10 10;stone 5 5 1;polygon 0 2 2 8 2 8 8 2 8;");
+        path(claims, 1, 4, 1, 0, 1, 1, 4);
+        Due.answer("takeOut", claims.takeOut(0, 0), -4);
+        Due.answer("close across the corner's sides", claims.close(1), -5);
     }
 
     private static void wrongInputs() {
