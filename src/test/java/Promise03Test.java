@@ -27,9 +27,8 @@ final class Promise03Test {
         Due.end();
     }
 
-    /** The text has this error at the sign '@', which is left out of it. */
     private static void error(int code, String marked) {
-        Texts.dueError(marked.replace("@", ""), code, marked.indexOf('@'));
+        Texts.dueErrorAt(code, marked);
     }
 
     private static void wrongLengths() {

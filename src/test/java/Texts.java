@@ -52,4 +52,9 @@ final class Texts {
     static void dueGood(String text, int polygons) {
         dueError(text, polygons, -1);
     }
+
+    /** Expects the text to have this error at the sign '@', which is left out of it. */
+    static void dueErrorAt(int code, String marked) {
+        dueError(marked.replace("@", ""), code, marked.indexOf('@'));
+    }
 }
