@@ -26,6 +26,7 @@ final class EdgesOfAreasTest {
         straightCorners();
         dentsInAllPlaces();
         containing();
+        noParent();
         parents();
         claims();
         Due.end();
@@ -192,6 +193,16 @@ final class EdgesOfAreasTest {
         claims.close(1);
         Due.answer("parent(0) in the closed one", claims.parent(0), 1);
         Due.answer("parent(1) is not itself", claims.parent(1), -1);
+    }
+
+    private static void noParent() {
+        Due.sentence(15, "Returns its parent; -1 if there is none.");
+        parent("field 12 12;polygon 0 1 1 5 1 5 5 1 5;", -1);
+        CornerClaims claims = Texts.loaded(SIX);
+        claims.remove(1);
+        Due.answer("parent(2) without the outermost", claims.parent(2), -1);
+        claims.undo();
+        Due.answer("parent(3) with it again", claims.parent(3), 1);
     }
 
     private static void parents() {

@@ -25,6 +25,7 @@ final class EdgesOfBendsTest {
         sideThatGoes();
         orderOfTakingOutsReasons();
         lineOfTakingOut();
+        cornersBeside();
         cornerThatGoes();
         Due.end();
     }
@@ -152,6 +153,21 @@ final class EdgesOfBendsTest {
         bend(square, 0, 4, 2, 36);
         bend(square, 0, 3, 1, 40);
         bend(square, 0, 9, 2, 36);
+        Due.sentence(22, "(which becomes a corner behind corner k; the side goes, and two lines to the point"
+                + " come)");
+        CornerClaims claims = Texts.loaded(square);
+        int[][] points = {{5, 5}, {6, 6}, {6, 8}, {8, 8}};
+        int[] sides = {0, 1, 4, 3};
+        for (int k = 0; k < 4; k++) {
+            int[] to = points[k];
+            Due.answer("bend(0, " + sides[k] + ", ..)", claims.bend(0, sides[k], to[0], to[1]) > 0 ? 1 : 0, 1);
+            Due.answer("the corner behind", claims.cornerAt(0, sides[k] + 1), 100 * to[0] + to[1]);
+            Due.answer("where(0, x, y)", claims.where(0, to[0], to[1]), 1);
+        }
+        int[] corners = {303, 505, 606, 703, 808, 707, 608, 307};
+        for (int k = 0; k < 8; k++) {
+            Due.answer("cornerAt(0, " + k + ")", claims.cornerAt(0, k), corners[k]);
+        }
     }
 
     /** The sides beside the one that is bent have an end in common with a line. */
@@ -235,6 +251,25 @@ final class EdgesOfBendsTest {
         Due.sentence(23, FIRST);
         takeOut("field 10 10;stone 5 5 1;polygon 0 0 0 6 0 6 6 3 2 0 6;", 1, -4);
         takeOut("field 10 10;stone 1 1 1;polygon 0 0 0 6 0 6 6 3 2 0 6;", 1, -4);
+    }
+
+    private static void cornersBeside() {
+        Due.sentence(23, "To take out corner k of a closed polygon (with its two sides; a line between the"
+                + " corners beside it comes)");
+        // The only diagonal that is free is that from 2 8 to 8 2; then that from 2 2 to 8 8.
+        for (int place = 0; place < 4; place++) {
+            CornerClaims claims = Texts.loaded(SQUARE + "stone 3 3 1;");
+            boolean isFree = place == 0 || place == 2;
+            Due.answer("takeOut(0, " + place + ")", claims.takeOut(0, place), isFree ? 36 : -4);
+            Due.answer("stone(0, 3)", claims.stone(0, 3), place == 0 ? -1 : 0);
+            if (isFree) {
+                Due.answer("where(0, 5, 5)", claims.where(0, 5, 5), 1);
+                Due.answer("where of a side that went", claims.where(0, place == 0 ? 2 : 8, 5), 0);
+                Due.answer("where of a side that stays", claims.where(0, place == 0 ? 8 : 2, 5), 1);
+            }
+            claims = Texts.loaded(SQUARE + "stone 3 7 1;");
+            Due.answer("takeOut(0, " + place + ")", claims.takeOut(0, place), isFree ? -4 : 36);
+        }
     }
 
     private static void cornerThatGoes() {

@@ -18,6 +18,7 @@ final class EdgesOfLinesTest {
         sidesOfOthers();
         sidesOfItsOwn();
         openSides();
+        noReason();
         firstReason();
         orderOfCornersReasons();
         closings();
@@ -168,6 +169,16 @@ final class EdgesOfLinesTest {
         Draw.open(claims, 0, 6, 6);
         Draw.open(claims, 1, 2, 5);
         due(FIVE, claims, 1, 10, 6, 0);
+    }
+
+    private static void noReason() {
+        CornerClaims claims = new CornerClaims();
+        Draw.open(claims, 0, 0, 0);
+        for (int x = 0; x <= 2; x++) {
+            for (int y = 0; y <= 2; y++) {
+                due("0 stands for no reason.", claims, 0, x, y, x == 0 && y == 0 ? 3 : 0);
+            }
+        }
     }
 
     private static void firstReason() {
