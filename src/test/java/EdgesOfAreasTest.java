@@ -29,6 +29,7 @@ final class EdgesOfAreasTest {
         noParent();
         parents();
         claims();
+        claimsAfterChanges();
         Due.end();
     }
 
@@ -155,6 +156,11 @@ final class EdgesOfAreasTest {
         dents("0 1 15 0 30 1 0 30", 0);
         dents("0 30 30 0 15 1 0 0", 1);
         dents("0 30 30 1 15 0 0 1", 0);
+        // As little as there can be: by a triangle of twice the area 1.
+        dents("5 0 6 1 8 2 8 9 0 9", 1);
+        dents("0 9 8 9 8 2 6 1 5 0", 1);
+        dents("5 0 7 1 8 2 8 9 0 9", 0);
+        dents("0 9 8 9 8 2 7 1 5 0", 0);
     }
 
     private static void dentsInAllPlaces() {
@@ -181,6 +187,9 @@ final class EdgesOfAreasTest {
         Due.sentence(15, CONTAINS);
         parent("field 12 12;polygon 0 1 1 5 1 5 5 1 5;polygon 0 2 2 4 2 4 4 2 4;", -1, 0);
         parent("field 12 12;polygon 0 2 2 4 2 4 4 2 4;polygon 0 1 1 5 1 5 5 1 5;", 1, -1);
+        // In a band aslant: no point that mixes x and y of the corners is in it.
+        parent("field 12 12;polygon 0 0 12 0 10 10 0 12 0 12 2 2 12;polygon 0 2 9 9 3 9 4;", -1, 0);
+        parent("field 12 12;polygon 0 12 0 10 0 0 10 0 12 2 12 12 2;polygon 0 9 4 9 3 2 9;", -1, 0);
         // Beside one another, in a dent, and in a bay with the other one around it on three sides.
         parent("field 12 12;polygon 0 1 1 3 1 3 3 1 3;polygon 0 4 1 12 1 12 12 4 12;", -1, -1);
         parent("field 12 12;polygon 0 0 0 12 0 12 12 6 2 0 12;polygon 0 5 9 7 9 6 5;", -1, -1);
@@ -241,6 +250,48 @@ final class EdgesOfAreasTest {
         Due.sentence(5, CLAIM);
         Due.answer("count(5)", claims.count(5), 1);
         Due.answer("count(5) of an open one", openAround().count(5), 0);
+    }
+
+    private static void dueClaims(CornerClaims claims, int promise, int first, int second) {
+        Due.sentence(promise, CLAIM);
+        Due.answer("stone(0, 3)", claims.stone(0, 3), first);
+        Due.answer("stone(1, 3)", claims.stone(1, 3), second);
+        Due.answer("count(5)", claims.count(5), (first < 0 ? 0 : 1) + (second < 0 ? 0 : 1));
+    }
+
+    /** Each change brings the outline over a stone, and undo brings it back. */
+    private static void claimsAfterChanges() {
+        CornerClaims claims = Texts.loaded(
+                "field 12 12;stone 6 3 9;stone 6 1 8;polygon 0 2 2 10 2 10 10 2 10;");
+        dueClaims(claims, 3, 0, -1);
+        claims.bend(0, 0, 6, 4);
+        dueClaims(claims, 22, -1, -1);
+        claims.undo();
+        dueClaims(claims, 25, 0, -1);
+        claims.bend(0, 0, 6, 0);
+        dueClaims(claims, 22, 0, 0);
+        claims.undo();
+        dueClaims(claims, 25, 0, -1);
+        claims.takeOut(0, 0);
+        dueClaims(claims, 23, -1, -1);
+        claims.undo();
+        dueClaims(claims, 25, 0, -1);
+        claims.remove(0);
+        dueClaims(claims, 24, -1, -1);
+        claims.undo();
+        dueClaims(claims, 25, 0, -1);
+        Draw.open(claims, 1, 0, 0, 12, 0, 12, 12, 0, 12);
+        dueClaims(claims, 20, 0, -1);
+        claims.close(1);
+        dueClaims(claims, 21, 0, 1);
+        claims.undo();
+        dueClaims(claims, 25, 0, -1);
+        Texts.load(claims, "field 12 12;stone 1 1 1;stone 6 6 1;polygon 0 0 0 3 0 0 3;");
+        dueClaims(claims, 3, 0, -1);
+        Texts.load(claims, "field 12 12;stone 9 9 1;stone 1 1 1;polygon 0 0 0 3 0 0 3;");
+        dueClaims(claims, 3, -1, 0);
+        claims.undo();
+        dueClaims(claims, 25, 0, -1);
     }
 
     private static CornerClaims openAround() {

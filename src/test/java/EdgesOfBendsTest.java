@@ -23,6 +23,7 @@ final class EdgesOfBendsTest {
         beyondTheEnds();
         neighbours();
         sideThatGoes();
+        onlyAtTheSameTime();
         orderOfTakingOutsReasons();
         lineOfTakingOut();
         cornersBeside();
@@ -129,6 +130,11 @@ final class EdgesOfBendsTest {
         // The line from the last corner is the first one of the last side.
         bend("field 10 10;polygon 0 8 2 8 8 2 8 2 2;" + left + "stone 6 4 1;", 3, 4, 6, -5);
         bend("field 10 10;polygon 0 8 2 8 8 2 8 2 2;" + right + "stone 4 4 1;", 3, 6, 6, -4);
+        // Beyond an end of the side: the first line crosses a side, the second one goes through corner k.
+        String side = "field 10 10;polygon 0 3 3 7 3 7 7 3 7;polygon 0 1 2 2 4 1 4;";
+        bend(side, 0, 2, 3, -4);
+        bend(side, 0, 0, 3, -5);
+        bend(side, 3, 3, 0, -4);
         Due.sentence(22, FIRST);
         bend(SQUARE + left + "stone 3 4 1;", 0, 4, 6, -4);
         bend(SQUARE + right + "stone 7 4 1;", 0, 6, 6, -4);
@@ -200,6 +206,36 @@ final class EdgesOfBendsTest {
         // Only that side goes: side 0 of another one and its other sides stay.
         bend(SQUARE + "polygon 0 4 5 6 5 5 7;", 0, 5, 6, -5);
         bend("field 10 10;polygon 0 2 2 8 2 8 8 2 8;polygon 0 9 0 10 0 10 1;", 0, 5, 9, -5);
+    }
+
+    /** What was to go in a call that was refused counts in the next call. */
+    private static void onlyAtTheSameTime() {
+        for (int k = 0; k < 2; k++) {
+            CornerClaims claims = Texts.loaded(SQUARE + "stone 5 5 1;");
+            Draw.open(claims, 1, 5, 1);
+            Draw.open(claims, 1, 0, 0);
+            Draw.open(claims, 1, 4, 1, 0, 1, 1, 4);
+            refuse(claims, k == 0);
+            Due.sentence(9, GOES);
+            Due.answer("reason across the side", claims.reason(1, 5, 3), 5);
+            Due.answer("reason on the side", claims.reason(1, 5, 2), 5);
+            refuse(claims, k == 0);
+            Due.sentence(9, GOES);
+            Due.answer("reason across the corner", claims.reason(2, 3, 3), 4);
+            refuse(claims, k == 0);
+            Due.sentence(20, GOES);
+            Due.answer("corner across the side", claims.corner(1, 5, 3), -5);
+            refuse(claims, k == 0);
+            Due.sentence(21, GOES);
+            Due.answer("close across the sides beside the corner", claims.close(3), -5);
+        }
+    }
+
+    /** By a bend the side 0 is to go, by a taking out the corner 0 with the sides 3 and 0. */
+    private static void refuse(CornerClaims claims, boolean byBend) {
+        Due.sentence(byBend ? 22 : 23, GOES);
+        Due.answer("a call that is refused", byBend ? claims.bend(0, 0, 9, 5) : claims.takeOut(0, 0),
+                byBend ? -5 : -4);
     }
 
     private static void orderOfTakingOutsReasons() {

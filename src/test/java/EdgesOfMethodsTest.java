@@ -146,6 +146,10 @@ final class EdgesOfMethodsTest {
         Due.answer("checksum()", claims.checksum(), 0);
         Draw.closed(claims, 0, 0, 0, 4, 0, 0, 4);
         Due.answer("score(0)", claims.score(0), 16);
+        for (int k = 0; k <= 100; k++) {
+            Texts.load(claims, "field 5 4;polygon 0 0 0 1 0 0 1;score 5*(" + k + "-area);");
+            Due.answer("score(0) by the latest score", claims.score(0), 5 * k - 5);
+        }
         Due.sentence(3, "An error leaves all other data unchanged.");
         CornerClaims kept = Texts.loaded(full);
         kept.begin(1, 12, 0);

@@ -17,7 +17,8 @@ final class EdgesOfTextTest {
         {"4", "1 ;"}, {"6", "1"}, {";", "1 ;"},
         {"score", STATEMENTS}, {"(", FACTORS}, {"area", FACTORS}, {"+", "+ - * / )"}, {"2", FACTORS},
         {")", "+ - * / )"}, {"*", "+ - * / ;"}, {"3", FACTORS}, {"-", "+ - * / ;"}, {"dents", FACTORS},
-        {"/", "+ - * / ;"}, {"corners", FACTORS}, {";", "+ - * / ;"},
+        {"/", "+ - * / ;"}, {"corners", FACTORS}, {"+", "+ - * / ;"}, {"stones", FACTORS},
+        {"+", "+ - * / ;"}, {"inner", FACTORS}, {";", "+ - * / ;"},
         {"stone", STATEMENTS}, {"2", "1"}, {"2", "1"}, {"5", "1"}, {";", ";"},
     };
 
@@ -93,6 +94,24 @@ final class EdgesOfTextTest {
         Texts.dueErrorAt(SYNTAX, "@fieldz2 2;");
         Texts.dueErrorAt(SYNTAX, "@afield2 2;");
         Texts.dueErrorAt(SYNTAX, "@zfield2 2;");
+        // Each word with one letter that is another one, and with one that is missing.
+        for (String[] token : TOKENS) {
+            String word = token[0];
+            for (int k = 0; k < word.length() && word.charAt(0) >= 'a'; k++) {
+                char other = word.charAt(k) == 'z' ? 'a' : (char) (word.charAt(k) + 1);
+                dueUnknown(word, word.substring(0, k) + other + word.substring(k + 1));
+                dueUnknown(word, word.substring(0, k) + word.substring(k + 1));
+            }
+        }
+    }
+
+    /** The first one of these words is where the grammar allows it; in its place is the other one. */
+    private static void dueUnknown(String word, String other) {
+        StringBuilder before = new StringBuilder();
+        for (int k = 0; !TOKENS[k][0].equals(word); k++) {
+            before.append(TOKENS[k][0]).append(' ');
+        }
+        Texts.dueError(before + other + " 1 1 1;", SYNTAX, before.length());
     }
 
     private static void longestRuns() {
