@@ -457,7 +457,7 @@ public final class CornerClaims {
             if (place < 0 || place >= size) {
                 return;
             }
-            for (int k = place + 1; k < size; k++) {
+            for (int k = place + 1; k < size && k < MAX_CORNERS; k++) {
                 xs[k - 1] = xs[k];
                 ys[k - 1] = ys[k];
             }

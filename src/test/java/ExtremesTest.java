@@ -1,5 +1,3 @@
-import java.util.NoSuchElementException;
-
 /** Every method with every mixture of arguments at and beyond the edges, in several states. */
 final class ExtremesTest {
     private static final int[] EDGES =
@@ -43,17 +41,7 @@ final class ExtremesTest {
     }
 
     private void same(String call, Due.Call made, long due) {
-        if (due == Reference.ILLEGAL_ARGUMENT) {
-            Due.thrown(call, IllegalArgumentException.class, made);
-        } else if (due == Reference.INDEX) {
-            Due.thrown(call, IndexOutOfBoundsException.class, made);
-        } else if (due == Reference.NO_ELEMENT) {
-            Due.thrown(call, NoSuchElementException.class, made);
-        } else if (due == Reference.ILLEGAL_STATE) {
-            Due.thrown(call, IllegalStateException.class, made);
-        } else {
-            Due.answer(call, made.answer(), due);
-        }
+        Reference.compare(call, made, due);
     }
 
     private void all() {

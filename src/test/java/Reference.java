@@ -1,5 +1,6 @@
 import java.util.ArrayList;
 import java.util.List;
+import java.util.NoSuchElementException;
 
 /**
  * A second CornerClaims, written from the document in other ways than the program: exact fractions
@@ -61,6 +62,21 @@ final class Reference {
     private final List<State> before = new ArrayList<>();
     private String buffer = "";
     private int errorOffset = -1;
+
+    /** Expects the answer, or the very exception, that an answer of a Reference tells. */
+    static void compare(String call, Due.Call made, long due) {
+        if (due == ILLEGAL_ARGUMENT) {
+            Due.thrown(call, IllegalArgumentException.class, made);
+        } else if (due == INDEX) {
+            Due.thrown(call, IndexOutOfBoundsException.class, made);
+        } else if (due == NO_ELEMENT) {
+            Due.thrown(call, NoSuchElementException.class, made);
+        } else if (due == ILLEGAL_STATE) {
+            Due.thrown(call, IllegalStateException.class, made);
+        } else {
+            Due.answer(call, made.answer(), due);
+        }
+    }
 
     private void remember() {
         before.add(state.copy());
@@ -532,7 +548,7 @@ final class Reference {
         return sum;
     }
 
-    /** A corner is a dent if the area without it is greater. */
+    /** The lowest corner is no dent; a corner at which the way turns to the other side is one. */
     static int dentsOf(Polygon polygon) {
         int sum = 0;
         int size = polygon.corners.size();
